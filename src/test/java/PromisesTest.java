@@ -331,6 +331,12 @@ public final class PromisesTest {
         due("back(0) of none", x.back(0), UNKNOWN);
         due("all is free", x.told(2), 6);
         due("8 deeds", x.told(8), 8);
+        for (int i = 0; i < 6; i++) {
+            due("free(" + i + ", 0) as at first", x.free(i, 0), SHIFT + (i == 0 ? 1 : 0));
+            for (int base = 0; base < 4; base++) {
+                due("least(" + i + ", " + base + ") as at first", x.least(i, base), SHIFT);
+            }
+        }
     }
 
     // ---- promise 8
@@ -394,6 +400,7 @@ public final class PromisesTest {
         boolean saidNothing = false;
         for (int start = 0; start < 400; start++) {
             UnitVectors x = new UnitVectors();
+            Due.follows(x, "u*v*w*x*y*z=a*b*c*d");
             x.seed(start * 5000011);
             long seed = start * 5000011;
             seed = afterDraw(seed);
@@ -456,6 +463,10 @@ public final class PromisesTest {
         due("undo(1)", x.undo(1), 0);
         due("undo(1)", x.undo(1), NOT);
         due("nothing is said", x.told(2), 6);
+        x.scale(2, 1, 10);
+        x.scale(2, 1, 5);
+        due("undo(1)", x.undo(1), 0);
+        due("the number below is as ahead", Due.converted(x, "c", 100, 0), 10);
     }
 
     private static void undoKeepsTwenty() {
