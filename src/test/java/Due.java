@@ -2,15 +2,25 @@
 final class Due {
     private static int wrong = 0;
     private static int asked = 0;
+    private static String about = "";
 
     private Due() {
+    }
+
+    /** What the calls from here on are asked for; it is printed ahead of each that is wrong. */
+    static void about(String what) {
+        about = what;
+    }
+
+    static int asked() {
+        return asked;
     }
 
     static void due(String call, long got, long want) {
         asked++;
         if (got != want) {
             wrong++;
-            System.out.println(call + " answered " + got + ", due is " + want);
+            System.out.println(about + call + " answered " + got + ", due is " + want);
         }
     }
 
@@ -28,6 +38,15 @@ final class Due {
 
     static void said(UnitVectors x, String text, int want) {
         due("say() of " + text, say(x, text), want);
+    }
+
+    /** A new object by which these are said, one by one. */
+    static UnitVectors saying(String... texts) {
+        UnitVectors x = new UnitVectors();
+        for (int k = 0; k < texts.length; k++) {
+            said(x, texts[k], k + 1);
+        }
+        return x;
     }
 
     static int follows(UnitVectors x, String text) {
