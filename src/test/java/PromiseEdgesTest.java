@@ -14,7 +14,6 @@ public final class PromiseEdgesTest {
     }
 
     public static void main(String[] args) {
-        calls();
         newObject();
         feed();
         wipe();
@@ -47,31 +46,6 @@ public final class PromiseEdgesTest {
     /** Numbers just out of the bounds, and those that are farthest out. */
     private static int[] around(int low, int high) {
         return new int[] {LEAST_INT, low - 1, high + 1, MOST_INT};
-    }
-
-    // ---- ahead of the promises
-
-    private static void calls() {
-        Sentences.of("What it is", "An object is used for at most 512 calls after it has been made; what later calls answer is free.");
-        UnitVectors x = new UnitVectors();
-        int calls = 0;
-        for (int turn = 0; turn < 85; turn++) {
-            due("call " + ++calls, x.feed('u'), 1);
-            due("call " + ++calls, x.feed('='), 2);
-            due("call " + ++calls, x.feed('a'), 3);
-            due("call " + ++calls, x.say(), 1);
-            due("call " + ++calls, x.isTold(0), 1);
-            due("call " + ++calls, x.back(0), 0);
-        }
-        due("call " + ++calls, x.told(8), 20);
-        due("call " + ++calls, x.undo(20), 0);
-        due("calls", calls, 512);
-        for (int later = 0; later < 600; later++) {
-            x.feed('u');
-        }
-        x.say();
-        x.drift(20);
-        due("later calls end", 1, 1);
     }
 
     // ---- promise 1
