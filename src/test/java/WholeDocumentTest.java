@@ -121,6 +121,7 @@ public final class WholeDocumentTest {
             }
         }
         due("run " + run + ": the least one is a solution", isSolution(sayings, least) ? 1 : 0, 1);
+        due("run " + run + ": the rows and the least one are told as \"Terms\" tells them", isForm(rows, least) ? 1 : 0, 1);
         long[] tried = {-FARTHEST, -FARTHEST, -FARTHEST, -FARTHEST, -FARTHEST, -FARTHEST};
         int found = 0;
         int wrong = 0;
@@ -131,6 +132,25 @@ public final class WholeDocumentTest {
         } while (goOn(tried));
         due("run " + run + ": rows that are a solution and do not come from the least one, or do and are none", wrong, 0);
         return found;
+    }
+
+    private static int headOf(long[] row) {
+        int head = 0;
+        while (row[head] == 0) head++;
+        return head;
+    }
+
+    private static boolean isForm(long[][] rows, long[] least) {
+        boolean isForm = true;
+        for (int i = 0; i < rows.length; i++) {
+            int head = headOf(rows[i]);
+            long high = rows[i][head];
+            isForm &= high > 0 && least[head] >= 0 && least[head] < high;
+            for (int ahead = 0; ahead < i; ahead++) {
+                isForm &= headOf(rows[ahead]) < head && rows[ahead][head] >= 0 && rows[ahead][head] < high;
+            }
+        }
+        return isForm;
     }
 
     private static boolean goOn(long[] tried) {
@@ -156,8 +176,7 @@ public final class WholeDocumentTest {
         long[] left = new long[6];
         for (int j = 0; j < 6; j++) left[j] = row[j] - least[j];
         for (long[] free : rows) {
-            int head = 0;
-            while (free[head] == 0) head++;
+            int head = headOf(free);
             if (left[head] % free[head] != 0) return false;
             long often = left[head] / free[head];
             for (int j = 0; j < 6; j++) left[j] -= often * free[j];
